@@ -51,6 +51,11 @@ public final class ForetoldTest {
         Checks.due("all known to all", 1, Checks.told(Checks.people(3)).ring());
         String uneven = Checks.people(6) + "calls 0 1;calls 2 3;calls 3 5;forgets 7;law second;";
         Checks.due("uneven", ringByHand(uneven), Checks.told(uneven).ring());
+        LeastKnown now = Checks.told(Checks.people(3) + "calls 1 0;calls 2 1;forgets 1;law second;");
+        Checks.due("by turns", 2, now.ring());
+        now.meet(2, 0);
+        now.moves(2);
+        Checks.due("from NOW", 1, now.ring());
     }
 
     private static int ringByHand(String town) {
@@ -100,6 +105,9 @@ public final class ForetoldTest {
         dueBrings(never, 0, 1, LeastKnown.NONE);
         dueBrings(never, 1, 1, 0);
         dueBrings(never, 2, 1, 1, 1);
+        dueBrings(Checks.told(Checks.people(2)), 1, 1, LeastKnown.NONE);
+        dueBrings(Checks.told(Checks.people(2) + "law just 1;"), 1, 1, LeastKnown.NONE);
+        dueBrings(Checks.told(Checks.people(4) + "knows 2 0;law just 2;"), 0, 1, 1, 1);
         dueBrings(Checks.told("person;"), 0, 0, LeastKnown.NONE);
         dueBrings(Checks.told("person;"), 0, 1, 0);
     }
@@ -124,7 +132,7 @@ public final class ForetoldTest {
     }
 
     private static void days() {
-        // Nobody has a COUNT of 1, so 0 would be CHOSEN; two who MEET have one, and the less number is CHOSEN.
+        // Nobody has a COUNT of 1, so 0 would be CHOSEN; of two who MEET the one with the least number is.
         LeastKnown x = Checks.told(Checks.people(3) + "law just 1;");
         dueDays(x, 1, 1, 1, 2, 1);
         dueDays(x, 1, 1, 0, LeastKnown.NONE, 0);
@@ -143,6 +151,10 @@ public final class ForetoldTest {
         dueDays(two, 1, 1, 0, 0, 0);
         dueDays(two, 1, 0, 1, 1, 0);
         dueDays(two, 1, 0, 0, LeastKnown.NONE, 1);
+        // 1 would not; by meeting 0 it would have 2 CHOSEN, but 2 meets 0 then, and has it be 1 again.
+        LeastKnown both = Checks.told(Checks.people(3) + "knows 1 0;knows 2 0;");
+        dueDays(both, 1, 1, 0, 0, 2);
+        dueDays(both, 2, 1, 0, LeastKnown.NONE, 1);
         LeastKnown habits = Checks.told(Checks.people(3) + "calls 0 1;");
         dueDays(habits, 1, 2, 1, LeastKnown.NONE, 0);
     }

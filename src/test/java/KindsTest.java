@@ -92,7 +92,7 @@ public final class KindsTest {
     }
 
     private static void count() {
-        LeastKnown x = Checks.told(Checks.people(5) + "knows 0 1;mutual 1 2;calls 3 4;calls 4 3;");
+        LeastKnown x = Checks.told(Checks.people(5) + "knows 0 1;mutual 1 2;calls 0 4;calls 4 3;");
         Checks.type(x, "person");
         Checks.due("PEOPLE", 5, x.count(0));
         Checks.due("pairs", 3, x.count(1));

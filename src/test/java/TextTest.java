@@ -62,6 +62,7 @@ public final class TextTest {
         due(Checks.people(3) + "calls 0 1;calls 1 0;calls 2 0;", 6);
         due("forgets 0;law least;", 2);
         due("law just 7;forgets 9;", 2);
+        due("law just 0;", 1);
         due("person;person;knows 0 1;person;knows 2 0;", 5);
         due("law second;", 1);
         due("law never;", 1);
@@ -163,6 +164,7 @@ public final class TextTest {
         due("persons;", -10);
         due("perso;", -10);
         due("persona;", -10);
+        due("personz;", -10);
         due("forgetss 1;", -10);
         due("forgets -1;", -18);
         due("forgets +1;", -18);
@@ -260,6 +262,15 @@ public final class TextTest {
         Checks.due("no PEOPLE", 0, x.count(0));
         Checks.due("STATE", LeastKnown.STATE, x.chosen());
         Checks.due("none KNOWS", 0, x.count(1));
+        for (int i = 0; i < 3; i++) {
+            Checks.type(x, "forgets 3;law just 1;person;person;calls 0 1;");
+            Checks.due("town()", 5, x.town());
+        }
+        x.town();
+        Checks.due("FORGETS as at first", 0, x.law(2));
+        Checks.due("LAW as at first", 0, x.law(0));
+        Checks.due("j as at first", 2, x.law(1));
+        Checks.due("HABITS", 0, x.count(2));
     }
 
     private static void due(String text, int want) {

@@ -195,5 +195,9 @@ public final class YearsTest {
         x.rules(3, 0);
         Checks.due("nobody has reigned", 0, x.chosen());
         Checks.due("the IMAGE stays", 4, x.back(0));
+        LeastKnown one = Checks.told(Checks.people(3) + "law never;");
+        Checks.due("go(1)", 0, one.go(1));
+        one.anew();
+        Checks.due("who had reigned ahead has not", 0, one.chosen());
     }
 }
