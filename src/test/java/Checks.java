@@ -1,9 +1,12 @@
 import java.nio.charset.StandardCharsets;
+import java.util.function.Supplier;
+import java.util.function.ToLongFunction;
 
 /** What every test needs: comparing answers, typing texts. */
 final class Checks {
     private static int right = 0;
     private static int wrong = 0;
+    private static String sentence = "";
 
     private Checks() {
     }
@@ -15,20 +18,66 @@ final class Checks {
         }
         wrong++;
         if (wrong <= 50) {
-            System.out.println(call + " answered " + got + ", due is " + want);
+            System.out.println(sentence + call + " answered " + got + ", due is " + want);
         }
+    }
+
+    static void dueSame(String what, String want, String got) {
+        int place = 0;
+        while (place < Math.min(want.length(), got.length()) && want.charAt(place) == got.charAt(place)) {
+            place++;
+        }
+        due(what + " [.." + from(got, place) + "; due .." + from(want, place) + "]", 1, got.equals(want) ? 1 : 0);
+    }
+
+    private static String from(String text, int place) {
+        return text.substring(Math.max(0, place - 30), Math.min(text.length(), place + 30));
+    }
+
+    /** The test of one sentence of the document, told by its words where it does not hold. */
+    static void sentence(String words, Runnable test) {
+        sentence = "\"" + words + "\": ";
+        int ahead = right + wrong;
+        try {
+            test.run();
+        } catch (RuntimeException | StackOverflowError thrown) {
+            due("a call threw " + thrown, 0, 1);
+        }
+        due("something is tested", 1, right + wrong > ahead ? 1 : 0);
+        sentence = "";
+    }
+
+    /** A call that is refused: what it answers; nothing changes, whatever object of these it comes to. */
+    static void refused(String call, long want, Supplier<LeastKnown> made, ToLongFunction<LeastKnown> refusal) {
+        due(call, want, refusal.applyAsLong(made.get()));
+        Supplier<LeastKnown> behind = () -> {
+            LeastKnown x = made.get();
+            refusal.applyAsLong(x);
+            return x;
+        };
+        dueSame("all behind " + call, Whole.of(made), Whole.of(behind));
     }
 
     static void type(LeastKnown x, String text) {
         byte[] bytes = text.getBytes(StandardCharsets.ISO_8859_1);
         for (int from = 0; from < bytes.length; from += 8) {
             int n = Math.min(8, bytes.length - from);
-            long v = 0;
-            for (int i = 0; i < n; i++) {
-                v = v << 8 | bytes[from + i] & 255;
-            }
-            x.type(v, n);
+            x.type(packed(bytes, from, n), n);
         }
+    }
+
+    /** At most eight bytes as type() takes them, the highest of them first. */
+    static long packed(String text) {
+        byte[] bytes = text.getBytes(StandardCharsets.ISO_8859_1);
+        return packed(bytes, 0, bytes.length);
+    }
+
+    private static long packed(byte[] bytes, int from, int n) {
+        long v = 0;
+        for (int i = 0; i < n; i++) {
+            v = v << 8 | bytes[from + i] & 255;
+        }
+        return v;
     }
 
     /** A new object that a text without FAULT has told. */
@@ -59,8 +108,7 @@ final class Checks {
     }
 
     static void dueKnowledge(String call, String want, LeastKnown x) {
-        String got = knowledge(x);
-        due(call + " [" + got + ", due " + want + "]", 1, got.equals(want) ? 1 : 0);
+        dueSame(call, want, knowledge(x));
     }
 
     /** Ends the test's run: exit code 1, if an answer was not as due. */
