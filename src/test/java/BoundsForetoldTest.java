@@ -28,6 +28,7 @@ public final class BoundsForetoldTest {
         Checks.sentence("19 brings: BAD", BoundsForetoldTest::bringsBad);
         Checks.sentence("20 days: k 1 .. 3", BoundsForetoldTest::daysEachK);
         Checks.sentence("20 days: f and i (left over by how many PEOPLE)", BoundsForetoldTest::daysLeftOver);
+        Checks.sentence("20 days: where all behind it do likewise", BoundsForetoldTest::daysBehind);
         Checks.sentence("20 days: where none does: nobody", BoundsForetoldTest::daysNoneDoes);
         Checks.sentence("20 days: of several the first: nobody, then the least number", BoundsForetoldTest::daysFirst);
         Checks.sentence("20 days: no HABIT going", BoundsForetoldTest::daysNoHabit);
@@ -332,6 +333,17 @@ public final class BoundsForetoldTest {
         dueDays(eight, 2, 7, 0, NONE, 2);
         dueDays(eight, 2, 6, 0, NONE, 0);
         dueDays(eight, 3, 6, 0, NONE, 2);
+    }
+
+    private static void daysBehind() {
+        // COUNTS 2, 0, 0: 1 is CHOSEN, till it MEETS 0; 2, CHOSEN then, MEETS 0 the day behind, and 1 is CHOSEN again.
+        LeastKnown x = Checks.told(Checks.people(3) + "knows 1 0;knows 2 0;");
+        dueDays(x, 1, 1, 0, 0, 2);
+        dueDays(x, 2, 1, 0, NONE, 1);
+        // On the third day 0, who is not CHOSEN in any case, does nothing.
+        dueDays(x, 3, 1, 0, NONE, 1);
+        // 0 must MEET 1 on the first day: on the second 1 would do nothing.
+        dueDays(two(), 2, 0, 1, 1, 0);
     }
 
     private static void daysNoneDoes() {

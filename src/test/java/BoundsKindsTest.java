@@ -196,6 +196,17 @@ public final class BoundsKindsTest {
         none.back(0);
         Checks.due("nobody had reigned", NONE, none.now(1));
         Checks.due("nobody had reigned", 0, none.person(0, 3) + none.person(1, 3));
+        LeastKnown never = Checks.told(Checks.people(3) + "law never;");
+        never.go(1);
+        never.keep(1);
+        never.go(1);
+        Checks.due("two have reigned", 2, never.chosen());
+        never.back(1);
+        Checks.due("one has", 1, never.chosen());
+        never.anew();
+        Checks.due("nobody has", 0, never.chosen());
+        never.back(1);
+        Checks.due("one has again", 1, never.chosen());
     }
 
     private static void backAlone() {

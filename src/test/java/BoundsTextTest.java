@@ -27,6 +27,7 @@ public final class BoundsTextTest {
         Checks.sentence("4 town: a FAULT: nothing changes", BoundsTextTest::townFaultChangesNothing);
         Checks.sentence("4 town: a FAULT: THE TEXT stays, too", BoundsTextTest::townFaultTextStays);
         Checks.sentence("4 town: THE TEXT tells all", BoundsTextTest::townTellsAll);
+        Checks.sentence("4 town: nothing is left of texts ahead", BoundsTextTest::townLeavesNothing);
         Checks.sentence("4 read anew: IMAGES are gone, THE TRACE goes on", BoundsTextTest::townImages);
         Checks.sentence("Terms: PEOPLE (8 at most)", BoundsTextTest::eightPeople);
         Checks.sentence("Terms: one KNOWS another one or not; HABITS none at first", BoundsTextTest::noneAtFirst);
@@ -333,6 +334,29 @@ public final class BoundsTextTest {
         x.go(20);
         fresh.go(20);
         Checks.dueSame("what comes of it", Whole.now(fresh), Whole.now(x));
+    }
+
+    private static void townLeavesNothing() {
+        String all = Checks.people(8) + "knows 0 1;mutual 2 3;mutual 7 6;calls 0 1;calls 7 0;forgets 9;law just 7;";
+        String[] texts = {Checks.people(8), Checks.people(2), "", "person;person;law never;", "person;person;forgets 3;"};
+        for (String text : texts) {
+            String fresh = Whole.of(() -> Checks.told(text));
+            for (int ahead = 1; ahead <= 3; ahead++) {
+                int times = ahead;
+                Checks.dueSame(text + " behind " + ahead, fresh, Whole.of(() -> behind(all, times, text)));
+                Checks.dueSame(text + " behind " + ahead + " FAULTS", fresh, Whole.of(() -> behind(all + "?", times, text)));
+            }
+        }
+    }
+
+    /** An object that a text has told behind others, which may have a FAULT. */
+    private static LeastKnown behind(String ahead, int times, String text) {
+        LeastKnown x = new LeastKnown();
+        for (int i = 0; i < times; i++) {
+            withText(x, ahead).town();
+        }
+        withText(x, text).town();
+        return x;
     }
 
     private static void townImages() {

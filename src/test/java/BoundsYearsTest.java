@@ -18,6 +18,7 @@ public final class BoundsYearsTest {
         Checks.sentence("Terms: A SPRING: HABITS ahead of the CHOSEN one", BoundsYearsTest::springHabits);
         Checks.sentence("Terms: A SPRING: all others KNOW it, SEEN this YEAR", BoundsYearsTest::springRuler);
         Checks.sentence("Terms: FORGETS: this YEAR less SEEN is that at least", BoundsYearsTest::forgetsAtLeast);
+        Checks.sentence("Terms: FORGETS: whoever KNOWS one", BoundsYearsTest::forgetsEachPair);
         Checks.sentence("Terms: FORGETS: SEEN -1, told by the text", BoundsYearsTest::forgetsTold);
         Checks.sentence("Terms: FORGETS 0: never", BoundsYearsTest::forgetsNever);
         Checks.sentence("Terms: FORGETS 1: whom it SAW this YEAR it KNOWS", BoundsYearsTest::forgetsOne);
@@ -152,10 +153,12 @@ public final class BoundsYearsTest {
             x.rules(2, j);
             Checks.due("JUST " + j + " of 2, 1, 0", due[j], x.chosen());
         }
-        LeastKnown one = Checks.told("person;");
-        for (int j = 0; j <= 7; j++) {
-            one.rules(2, j);
-            Checks.due("JUST " + j + " of one", 0, one.chosen());
+        for (int people = 1; people <= 8; people++) {
+            LeastKnown friends = Towns.friends(people);
+            for (int j = 0; j <= 7; j++) {
+                friends.rules(2, j);
+                Checks.due("JUST " + j + " of " + people + " friends", 0, friends.chosen());
+            }
         }
     }
 
@@ -245,6 +248,27 @@ public final class BoundsYearsTest {
                 x.go(1);
                 Checks.due(call + x.now(0), 0, x.knows(1, 2));
                 Checks.due(call + x.now(0), 0, x.knows(2, 1));
+            }
+        }
+    }
+
+    private static void forgetsEachPair() {
+        for (int a = 0; a < 8; a++) {
+            for (int b = 0; b < 8; b++) {
+                int ruler = a != 0 && b != 0 ? 0 : a != 1 && b != 1 ? 1 : 2;
+                if (a == b) {
+                    continue;
+                }
+                LeastKnown x = Checks.told(Checks.people(8) + "forgets 2;law just 7;knows " + a + " " + b + ";");
+                for (int p = 0; p < 8; p++) {
+                    x.meet(ruler, p);
+                }
+                x.go(1);
+                Checks.due(a + " KNOWS " + b + " in YEAR 1", 1, x.knows(a, b));
+                x.go(1);
+                Checks.due(a + " KNOWS " + b + " in YEAR 2", 0, x.knows(a, b));
+                Checks.due("who reigned", ruler, x.now(1));
+                Checks.due("all KNOW it", 7, x.person(ruler, 0));
             }
         }
     }
@@ -585,6 +609,11 @@ public final class BoundsYearsTest {
         LeastKnown y = Checks.told(town);
         Checks.due("what comes of it", y.go(20), x.go(20));
         Checks.dueSame("what comes of it", Whole.now(y), Whole.now(x));
+        LeastKnown never = Checks.told(Checks.people(3) + "law never;");
+        never.go(2);
+        Checks.due("two have reigned", 2, never.chosen());
+        never.anew();
+        Checks.due("nobody has", 0, never.chosen());
     }
 
     private static void anewYear() {

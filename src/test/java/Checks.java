@@ -6,6 +6,7 @@ import java.util.function.ToLongFunction;
 final class Checks {
     private static int right = 0;
     private static int wrong = 0;
+    private static int sentences = 0;
     private static String sentence = "";
 
     private Checks() {
@@ -37,6 +38,7 @@ final class Checks {
     /** The test of one sentence of the document, told by its words where it does not hold. */
     static void sentence(String words, Runnable test) {
         sentence = "\"" + words + "\": ";
+        sentences++;
         int ahead = right + wrong;
         try {
             test.run();
@@ -113,7 +115,8 @@ final class Checks {
 
     /** Ends the test's run: exit code 1, if an answer was not as due. */
     static void end(String test) {
-        System.out.println(test + ": " + right + " answers as due, " + wrong + " not");
+        String told = sentences == 0 ? "" : sentences + " sentences, ";
+        System.out.println(test + ": " + told + right + " answers as due, " + wrong + " not");
         if (wrong != 0 || right == 0) {
             System.exit(1);
         }
