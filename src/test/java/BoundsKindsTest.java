@@ -70,9 +70,10 @@ public final class BoundsKindsTest {
         late.go(99);
         late.moves(1);
         Checks.due("STRANGER, COUNT 0, YEAR 99", -99, late.rate(5, 1));
-        LeastKnown stairs = Checks.told(Checks.people(8) + "knows7 0;knows7 1;knows7 2;knows7 3;knows7 4;knows7 5;knows7 6;");
-        Checks.due("SHY, COUNT 0, KNOWS 7", -7, stairs.rate(1, 7));
-        Checks.due("HERMIT 7", 0, stairs.rate(4, 7));
+        LeastKnown seven = Checks.told(Checks.people(8)
+            + "knows7 0;knows7 1;knows7 2;knows7 3;knows7 4;knows7 5;knows7 6;");
+        Checks.due("SHY, COUNT 0, KNOWS 7", -7, seven.rate(1, 7));
+        Checks.due("HERMIT 7", 0, seven.rate(4, 7));
     }
 
     private static void rateGreatest() {

@@ -344,7 +344,8 @@ public final class BoundsTextTest {
             for (int ahead = 1; ahead <= 3; ahead++) {
                 int times = ahead;
                 Checks.dueSame(text + " behind " + ahead, fresh, Whole.of(() -> behind(all, times, text)));
-                Checks.dueSame(text + " behind " + ahead + " FAULTS", fresh, Whole.of(() -> behind(all + "?", times, text)));
+                Checks.dueSame(text + " behind " + ahead + " FAULTS", fresh,
+                    Whole.of(() -> behind(all + "?", times, text)));
             }
         }
     }
@@ -535,7 +536,8 @@ public final class BoundsTextTest {
         dueFault(Checks.people(3) + "calls 0 1;calls 0 2;", 37);
         dueFault(Checks.people(3) + "calls 2 0;calls 0 1;calls 2 1;", 47);
         dueTown(Checks.people(3) + "calls 0 1;calls 1 0;calls 2 0;", 6);
-        dueTown(Checks.people(8) + "calls 0 7;calls 1 7;calls 2 7;calls 3 7;calls 4 7;calls 5 7;calls 6 7;calls 7 0;", 16);
+        dueTown(Checks.people(8)
+            + "calls 0 7;calls 1 7;calls 2 7;calls 3 7;calls 4 7;calls 5 7;calls 6 7;calls 7 0;", 16);
         LeastKnown x = withText(new LeastKnown(), Checks.people(2) + "calls 0 1;?");
         x.town();
         x = withText(x, Checks.people(2) + "calls 0 1;");
@@ -626,7 +628,8 @@ public final class BoundsTextTest {
                 dueFault(ahead + less + ";", place);
                 dueFault(ahead + word.substring(0, i) + "x" + word.substring(i) + ";", place);
                 dueFault(ahead + word.substring(0, i) + "q" + word.substring(i + 1) + ";", place);
-                dueFault(ahead + word.substring(0, i) + (char) (word.charAt(i) - 32) + word.substring(i + 1) + ";", place);
+                char capital = (char) (word.charAt(i) - 32);
+                dueFault(ahead + word.substring(0, i) + capital + word.substring(i + 1) + ";", place);
             }
             dueFault(ahead + word + "s;", place);
             dueFault(ahead + word + "a;", place);
