@@ -859,14 +859,16 @@ public final class LeastKnown {
         int fewestPairs(Town town, Now now, int p, boolean would) {
             mind.copyFrom(now);
             for (int pairs = 0; pairs <= MOST_PAIRS; pairs++) {
-                if (bringsAbout(town, p, would, pairs, 1)) {
+                if (bringsAbout(this, town, p, would, pairs, 1)) {
                     return pairs;
                 }
             }
             return NONE;
         }
 
-        private boolean bringsAbout(Town town, int p, boolean would, int left, int from) {
+        // What calls itself is static, so it is told whose mind it tries out.
+        private static boolean bringsAbout(Foretelling own, Town town, int p, boolean would, int left, int from) {
+            Now mind = own.mind;
             if (left <= 0) {
                 return (town.choose(mind) == p) == would;
             }
@@ -880,11 +882,11 @@ public final class LeastKnown {
                 int ofB = at(mind.knowers, b);
                 mind.setKnowers(a, ofA | 1 << b);
                 mind.setKnowers(b, ofB | 1 << a);
-                boolean found = bringsAbout(town, p, would, left - 1, pair + 1);
+                boolean found = bringsAbout(own, town, p, would, left - 1, pair + 1);
                 mind.setKnowers(a, ofA);
                 mind.setKnowers(b, ofB);
                 if (found) {
-                    noteInFront(pair);
+                    own.noteInFront(pair);
                     return true;
                 }
             }
@@ -903,15 +905,16 @@ public final class LeastKnown {
         int lastDays(Town town, Now now, int days, int f, boolean would) {
             mind.copyFrom(now);
             firstAct = NONE;
-            return outcome(town, f, would, 0, Math.min(days, MOST_DAYS));
+            return outcome(this, town, f, would, 0, Math.min(days, MOST_DAYS));
         }
 
-        private int outcome(Town town, int f, boolean would, int day, int days) {
+        private static int outcome(Foretelling own, Town town, int f, boolean would, int day, int days) {
+            Now mind = own.mind;
             if (day >= days || town.people < 1) {
                 return town.choose(mind);
             }
             int caller = (f + day) % town.people;
-            int idle = outcome(town, f, would, day + 1, days);
+            int idle = outcome(own, town, f, would, day + 1, days);
             if ((idle == caller) == would) {
                 return idle;
             }
@@ -923,12 +926,12 @@ public final class LeastKnown {
                 int ofOther = at(mind.knowers, other);
                 mind.setKnowers(caller, ofCaller | 1 << other);
                 mind.setKnowers(other, ofOther | 1 << caller);
-                int ruler = outcome(town, f, would, day + 1, days);
+                int ruler = outcome(own, town, f, would, day + 1, days);
                 mind.setKnowers(caller, ofCaller);
                 mind.setKnowers(other, ofOther);
                 if ((ruler == caller) == would) {
                     if (day == 0) {
-                        firstAct = other;
+                        own.firstAct = other;
                     }
                     return ruler;
                 }

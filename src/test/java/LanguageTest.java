@@ -29,6 +29,7 @@ public final class LanguageTest {
         String source = Files.readString(SOURCE);
         words(source);
         methodsAreShort(source);
+        whatCallsItselfIsPrivateAndStatic(source);
         nothingIsMadeByCalls(source);
         face();
         privateNames();
@@ -57,6 +58,20 @@ public final class LanguageTest {
                 }
             }
         }
+    }
+
+    /** Rule 8. A call with a . ahead is one of another object's method. */
+    private static void whatCallsItselfIsPrivateAndStatic(String source) {
+        Pattern method = Pattern.compile("(?m)^( {4}| {8})(\\S.*?)(\\w+)\\(.*\\) \\{\n([\\s\\S]*?)^\\1}$");
+        int recursions = 0;
+        Matcher m = method.matcher(source);
+        while (m.find()) {
+            if (Pattern.compile("(?<![.\\w])" + m.group(3) + "\\(").matcher(m.group(4)).find()) {
+                recursions++;
+                Checks.due("private static: " + m.group(3), 1, m.group(2).startsWith("private static ") ? 1 : 0);
+            }
+        }
+        Checks.due("methods that call themselves", 2, recursions);
     }
 
     private static void nothingIsMadeByCalls(String source) {
